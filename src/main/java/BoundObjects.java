@@ -329,17 +329,11 @@ public final class BoundObjects {
   private boolean relocateNewcomers(boolean lazily) {
     for (int k = 0; k < closure.size; k++) {
       int o = closure.members[k];
-      if (isIn(newcomers, o) && !relocate(o, lazily)) {
-        return false;
-      }
-    }
-    return true;
-  }
-
-  private boolean relocate(int o, boolean lazily) {
-    for (int r = 0; r < linkables[o].relocations.size; r++) {
-      if (!doRelocation(o, r, lazily)) {
-        return false;
+      int relocations = isIn(newcomers, o) ? linkables[o].relocations.size : 0;
+      for (int r = 0; r < relocations; r++) {
+        if (!doRelocation(o, r, lazily)) {
+          return false;
+        }
       }
     }
     return true;
@@ -387,11 +381,12 @@ public final class BoundObjects {
   }
 
   private int firstDefining(Row row, int name) {
+    int chain = chainOf(name);
     for (int k = 0; k < row.size; k++) {
       int o = row.members[k];
       Linkable linkable = linkables[o];
       if (linkable.isLoaded()) {
-        stepCount += linkable.symbols.stepsTo(name);
+        stepCount += linkable.symbols.stepsTo(name, chain);
         if (linkable.symbols.placeOf(name) != NONE) {
           return o;
         }
@@ -548,8 +543,7 @@ public final class BoundObjects {
       return NONE;
     }
 
-    private int stepsTo(int name) {
-      int chain = chainOf(name);
+    private int stepsTo(int name, int chain) {
       int taken = 0;
       for (int s = size - 1; s >= 0; s--) {
         if (chains[s] == chain) {

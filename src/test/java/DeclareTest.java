@@ -153,6 +153,7 @@ public final class DeclareTest {
     C.dueThrow("absolute, no symbols", Checks.ARGUMENT, () -> x.relocation(0, 1, 0, 0, 0));
     C.dueThrow("slot, no symbols", Checks.ARGUMENT, () -> x.relocation(0, 2, 0, 0, 0));
     x.symbol(0, 'a', 0, false);
+    C.dueThrow("kind 3 with a symbol", Checks.ARGUMENT, () -> x.relocation(0, 3, 0, 0, 0));
     C.dueThrow("absolute, symbol -1", Checks.ARGUMENT, () -> x.relocation(0, 1, 0, -1, 0));
     C.dueThrow("slot, symbol 1 of 1", Checks.ARGUMENT, () -> x.relocation(0, 2, 0, 1, 0));
     C.due("relative with a symbol that is none", x.relocation(0, 0, 2, 99, 5), 0);
