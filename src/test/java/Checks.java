@@ -33,6 +33,12 @@ final class Checks {
     wrong(call, got, want.getName());
   }
 
+  void due(String call, String got, String want) {
+    if (!got.equals(want)) {
+      wrong(call, got, want);
+    }
+  }
+
   void wrong(String call, String got, String want) {
     wrong++;
     System.out.println(call + " answered " + got + ", due is " + want);
@@ -65,6 +71,27 @@ final class Checks {
     for (int k = 0; k < want.length; k++) {
       due(when + ": event(" + k + ")", x.event(k), want[want.length - 1 - k]);
     }
+  }
+
+  /** Everything that the questions of the face tell but the steps, as one text; at most 91 calls. */
+  static String look(BoundObjects x) {
+    StringBuilder text = new StringBuilder("words");
+    for (int address = 0; address < 32; address++) {
+      text.append(' ').append(x.word(address));
+    }
+    for (int o = 0; o < 6; o++) {
+      text.append("; object ").append(o).append(" base ").append(x.base(o)).append(" opened ").append(x.opened(o));
+    }
+    text.append("; global");
+    for (int k = 0; k < 6; k++) {
+      text.append(' ').append(x.global(k));
+    }
+    int events = x.events();
+    text.append("; events ").append(events).append(':');
+    for (int k = 0; k < 40 && k < events; k++) {
+      text.append(' ').append(x.event(k));
+    }
+    return text.toString();
   }
 
   static int name(String letters) {

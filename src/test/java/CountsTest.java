@@ -65,7 +65,7 @@ public final class CountsTest {
     }
   }
 
-  /** The codes modulo 3 are a 1, b 2, c 0, and 16 is 1 modulo 3: "ab" and "aaa" go with "c", "cb" and "zzzz" with "b". */
+  /** Modulo 3 the codes are a 1, b 2, c 0, and 16 is 1: "ab" and "aaa" go with "c", "cb" and "zzzz" with "b". */
   private static void stepsFollowTheHash() {
     BoundObjects x = Checks.withImages(1);
     String[] names = {"ab", "a", "cb", "aaa", "b", "zzzz"};

@@ -8,11 +8,22 @@ import java.util.TreeSet;
 
 /** The public face: the document's constructor and methods, and nothing else that is not private. */
 public final class FaceTest {
+  private static final String INDEX = "IndexOutOfBoundsException";
+  private static final String ARGUMENT = "IllegalArgumentException";
+  private static final String STATE = "IllegalStateException";
+  private static final String NONE = "NoSuchElementException";
   private static final String[] METHODS = {
-    "void image(int, int)", "int need(int, int)", "int symbol(int, int, int, boolean)",
-    "int relocation(int, int, int, int, int)", "int open(int, boolean, boolean)", "int close(int)",
-    "int call(int, int)", "int find(int, int)", "int word(int)", "boolean store(int, int)", "int base(int)",
-    "int opened(int)", "int global(int)", "int events()", "int event(int)", "int steps()"
+    "void image(int, int)" + named(INDEX, ARGUMENT, STATE),
+    "int need(int, int)" + named(INDEX, ARGUMENT, STATE),
+    "int symbol(int, int, int, boolean)" + named(INDEX, ARGUMENT, STATE),
+    "int relocation(int, int, int, int, int)" + named(INDEX, ARGUMENT, STATE),
+    "int open(int, boolean, boolean)" + named(INDEX, STATE, NONE),
+    "int close(int)" + named(INDEX, STATE),
+    "int call(int, int)" + named(INDEX, ARGUMENT, STATE, NONE),
+    "int find(int, int)" + named(INDEX, ARGUMENT, STATE, NONE),
+    "int word(int)" + named(INDEX), "boolean store(int, int)" + named(), "int base(int)" + named(),
+    "int opened(int)" + named(), "int global(int)" + named(), "int events()" + named(),
+    "int event(int)" + named(NONE), "int steps()" + named()
   };
 
   public static void main(String[] args) {
@@ -54,6 +65,14 @@ public final class FaceTest {
       text.append(between).append(parameter.getName());
       between = ", ";
     }
-    return text.append(')').toString();
+    String[] exceptions = new String[method.getExceptionTypes().length];
+    for (int k = 0; k < exceptions.length; k++) {
+      exceptions[k] = method.getExceptionTypes()[k].getSimpleName();
+    }
+    return text.append(')').append(named(exceptions)).toString();
+  }
+
+  private static String named(String... exceptions) {
+    return " throws " + Arrays.toString(exceptions);
   }
 }

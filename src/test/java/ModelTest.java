@@ -7,7 +7,8 @@ import java.util.function.IntSupplier;
 public final class ModelTest {
   private static final int RUNS = 6000;
   private static final int MOST_SHOWN = 10;
-  private static final String[] NAMES = {"a", "d", "ab", "bcd", "zz", "abcd"};
+  private static final int MOST_BEFORE_THE_LOOK = 350;
+  private static final String[] NAMES = {"a", "d", "ab", "bcd", "zz", "abcd", "z"};
   private static final int[] ODD_NAMES = {
     0, 'A', 'a' << 8, 'a' | 'b' << 16, 'a' | 'z' + 1 << 8, Checks.name("abc") | 0xE1 << 24, -1, Integer.MAX_VALUE
   };
@@ -46,21 +47,23 @@ public final class ModelTest {
       }
     }
     int calls = 20 + random.nextInt(200);
-    for (int k = 0; k < calls && !differed; k++) {
+    for (int k = 0; k < calls && told.size() < MOST_BEFORE_THE_LOOK && !differed; k++) {
       anyCall();
     }
     lookAtAll();
   }
 
   private void declare(int o) {
-    image(o, 1 + random.nextInt(random.nextInt(4) == 0 ? 8 : 5));
-    for (int k = random.nextInt(3); k > 0; k--) {
+    // Now and then as much as it takes, and one more of each.
+    boolean full = random.nextInt(10) == 0;
+    image(o, full ? 8 : 1 + random.nextInt(random.nextInt(4) == 0 ? 8 : 5));
+    for (int k = full ? 6 : random.nextInt(3); k > 0; k--) {
       need(o, random.nextInt(6));
     }
-    for (int k = random.nextInt(5); k > 0; k--) {
+    for (int k = full ? 10 : random.nextInt(5); k > 0; k--) {
       symbol(o);
     }
-    for (int k = random.nextInt(4); k > 0; k--) {
+    for (int k = full ? 7 : random.nextInt(4); k > 0; k--) {
       relocation(o);
     }
   }
@@ -79,7 +82,7 @@ public final class ModelTest {
       case 4 -> relocation(o);
       case 5, 6, 7, 8, 9 -> open(o);
       case 10, 11, 12, 13 -> same("close(" + o + ")", () -> real.close(o), () -> model.close(o));
-      case 14, 15, 16 -> call(o, mostly(4));
+      case 14, 15, 16 -> call(o, mostly(7));
       case 17 -> find(o, anyName());
       case 18, 19 -> store(mostly(32), random.nextInt(3) == 0 ? random.nextInt() : -1 - random.nextInt(4));
       case 20 -> same("base(" + o + ")", () -> real.base(o), () -> model.base(o));
